@@ -122,6 +122,10 @@ public final class PromiseTest {
         for (int n : FAR) {
             due("3 far", x.end(n), NONE);
         }
+        x.feed(0x6C696D69, 0x74203333, 0x33333333, 0x33333333, 0x33333333);
+        due("3 end 7", x.end(7), 7);
+        due("3 nothing behind the end is read", x.text(0, NONE), NONE);
+        due("3 the end's place", x.fault(1), 7);
     }
 
     private static void promise4() {
@@ -574,6 +578,15 @@ public final class PromiseTest {
         IllLight v = Check.coast("size 4 2;rock 2 0;rock 2 1;ship 0 0 0 0;late 1 1;");
         due("12 too late for hour 0, so in hour 24", v.way(0, 0, 2), 25);
         due("12 and on", v.way(0, 0, 3), 26);
+        // walls that open in hours 24 and 48, then 10 steps to the corner, and a corridor up from it
+        IllLight far = Check.coast("size 8 8;rock 2 0;rock 1 1;rock 0 2;rock 4 0;rock 3 1;rock 2 2;rock 1 3;rock 0 4;"
+            + "rock 6 6;rock 6 5;rock 7 4;ship 0 0 0 0;late 1 1;");
+        due("12 to the corner", far.way(0, 0, 63), 59);
+        due("12 hour 60", far.way(0, 0, 55), 60);
+        due("12 beyond hour 60", far.way(0, 0, 47), NONE);
+        due("13 hour 60", far.free(0, 0, 60, 0) - far.free(0, 0, 59, 0), 1);
+        due("14 hour 60", far.helps(0, 0, 55, 60, 3), 0);
+        due("14 hour 59", far.helps(0, 0, 55, 59, 2), NONE);
         IllLight u = Check.coast("size 2 2;lamp 1 1;ship 1 0 0 0;ship 0 0 3 0;guard 0 1 0;");
         due("12 as if no other were there", u.way(0, 1, 2), NONE);
         due("12 the other", u.way(0, 0, 2), 2);
@@ -981,6 +994,10 @@ public final class PromiseTest {
         // it may be at the rock in hour 0, but back from beyond only by the rock in hour 24
         IllLight z = Check.coast("size 3 2;rock 1 0;rock 1 1;ship 0 0 0 0;late 1 1;");
         due("24 back in hour 24", z.back(0, 0, 2), 26);
+        // the corner opens in hours 24 and 48, 11 steps from the ship; 12 from the other
+        IllLight far = Check.coast("size 8 8;rock 6 7;rock 7 6;ship 2 0 0 0;late 1 1;ship 1 0 0 0;late 1 1;");
+        due("24 hour 60", far.back(0, 0, 63), 60);
+        due("24 beyond hour 60", far.back(0, 1, 63), NONE);
         due("24 cell", x.back(0, 0, 12), NONE);
         due("24 cell", x.back(0, 0, -1), NONE);
         due("24 ship", x.back(0, 2, 0), NONE);
