@@ -93,13 +93,15 @@ public final class IllLight {
     public int text(int sort, int at) {
         now.fault = 0;
         now.place = NONE;
+        // The tape is taken whatever the answer is: a text that is refused isn't read, but is gone too.
+        int taken = now.length;
+        now.length = 0;
         int held = now.held(sort);
         boolean further = at == NONE;
         if (held == MISSING || (further ? held >= OF_A_SORT : at < 0 || at >= held)) {
             return MISSING;
         }
-        reader.read(now.tape, now.length, sort);
-        now.length = 0;
+        reader.read(now.tape, taken, sort);
         now.fault = reader.fault;
         now.place = reader.place;
         if (reader.fault != 0) {
