@@ -10,7 +10,8 @@ public final class EdgeTest {
         new WayEdges(edge).run();
         new LogEdges(edge).run();
         new LookEdges(edge).run();
-        new CallEdges(edge).run();
+        new TellEdges(edge).run();
+        new AskEdges(edge).run();
         edge.close();
     }
 }

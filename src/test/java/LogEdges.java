@@ -98,7 +98,10 @@ final class LogEdges {
     private void sure() {
         e.says("SURE: who is in all (bits)");
         sureOf("", 0);
+        sureOf("man 5;", 0);
+        sureOf("man 5;dark 1;", 0);
         sureOf("man 5;man 5;", 0);
+        sureOf("man 5;man 5;dark 0;", 0);
         sureOf("man 5;man 5;lit 1;", 3);
         sureOf("man 5;man 5;lit 0;", 0);
         sureOf("man 5;lit 0;", 1);
