@@ -12,7 +12,6 @@ public final class IllLight {
     private static final int FED = 20;
     private static final int IMAGES = 3;
     private static final int DAY = 24;
-    private static final int EVEN_HOURS = 0x555555;
     private static final int ALL_HOURS = 0xFFFFFF;
     private static final int LONGEST = 60;
 

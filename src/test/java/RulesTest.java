@@ -100,6 +100,11 @@ public final class RulesTest {
         for (String word : RULED_OUT) {
             check.due("ruled out: " + word, Pattern.compile(word).matcher(code).find(), false);
         }
+        Matcher constant = Pattern.compile("private static final [\\w\\[\\]]+ ([A-Z_]+) =").matcher(code);
+        while (constant.find()) {
+            Matcher uses = Pattern.compile("\\b" + constant.group(1) + "\\b").matcher(code);
+            check.due("it is used: " + constant.group(1), uses.results().count() > 1, true);
+        }
         check.due("signs up to 127", source.chars().allMatch(sign -> sign < 128), true);
         methodLengths(source);
     }
